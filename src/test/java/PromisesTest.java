@@ -1,0 +1,872 @@
+/** Each promise by itself, with answers that were worked out by hand from the document. */
+public final class PromisesTest {
+  private static final Class<IllegalArgumentException> ARGUMENT = IllegalArgumentException.class;
+  private static final Class<IndexOutOfBoundsException> INDEX = IndexOutOfBoundsException.class;
+  private static final Class<IllegalStateException> STATE = IllegalStateException.class;
+  private static final int[] FAR = {Integer.MIN_VALUE, Integer.MAX_VALUE};
+
+  private final Checks checks = new Checks("PromisesTest");
+
+  private void due(String what, Object got, Object want) {
+    checks.due(what, got, want);
+  }
+
+  /** A refused call: its exception, and nothing that can be asked is another than before. */
+  private void refused(GreyReel x, String what, Class<? extends RuntimeException> e,
+      Checks.Call call) {
+    String before = settings(x);
+    checks.refuses(what, e, call);
+    due(what + ", refused, changes", settings(x), before);
+  }
+
+  private static String settings(GreyReel x) {
+    boolean smoothing = x.setSmoothing(true);
+    x.setSmoothing(smoothing);
+    int target = x.setTarget(0);
+    x.setTarget(target);
+    int interval = x.setInterval(1);
+    x.setInterval(interval);
+    // Whether a KEY was asked for can't be asked itself: it is in the bytes that would be.
+    int bytes = x.pictures() < 24 ? x.bytesWith(5) : 0;
+    return x.digest() + " " + smoothing + " " + target + " " + interval + " " + bytes + " "
+        + x.driftNext();
+  }
+
+  private static GreyReel painted() {
+    GreyReel x = new GreyReel();
+    x.ramp(60, 20, 10);
+    x.box(10, 6, 9, 9, 220);
+    x.box(20, 14, 6, 5, 30);
+    return x;
+  }
+
+  /**
+   * Tiles of a quarter each, far from their neighbours: with the step 4 a level is just what is left
+   * of a quarter, so the RESULT is the canvas, and coded once more all its blocks are SKIP.
+   */
+  private static GreyReel tiled() {
+    GreyReel x = new GreyReel();
+    for (int at = 0; at < 48; at++) {
+      x.box(at % 8 * 4, at / 8 * 4, 4, 4, (at % 8 * 101 + at / 8 * 67) % 256);
+    }
+    x.setSmoothing(false);
+    x.setStep(4);
+    return x;
+  }
+
+  private static GreyReel full() {
+    GreyReel x = tiled();
+    for (int i = 0; i < 24; i++) {
+      x.code();
+    }
+    return x;
+  }
+
+  private static int sumOfCanvas(GreyReel x) {
+    int sum = 0;
+    for (int y = 0; y < 24; y++) {
+      for (int at = 0; at < 32; at++) {
+        sum += x.canvasAt(at, y);
+      }
+    }
+    return sum;
+  }
+
+  private void promise1NewObject() {
+    GreyReel x = new GreyReel();
+    due("pictures() at first", x.pictures(), 0);
+    due("step() at first", x.step(), 8);
+    due("shown() at first", x.shown(), 0);
+    due("the sum of the canvas at first", sumOfCanvas(x), 0);
+    due("shownAt(0, 0) at first", x.shownAt(0, 0), 128);
+    due("shownAt(31, 23) at first", x.shownAt(31, 23), 128);
+    due("setTarget(1) at first", x.setTarget(1), 0);
+    due("setInterval(1) at first", x.setInterval(1), 12);
+    due("setSmoothing(true) at first", x.setSmoothing(true), true);
+    GreyReel other = new GreyReel();
+    x.fill(9);
+    due("another object's canvas", sumOfCanvas(other), 0);
+  }
+
+  private void promise2Fill() {
+    GreyReel x = new GreyReel();
+    due("fill(0) of black", x.fill(0), 0);
+    due("fill(255)", x.fill(255), 768);
+    due("the sum then", sumOfCanvas(x), 768 * 255);
+    due("fill(255) again", x.fill(255), 0);
+    x.box(3, 3, 2, 2, 7);
+    due("fill(7)", x.fill(7), 764);
+    due("the sum then", sumOfCanvas(x), 768 * 7);
+    for (int grey : new int[] {-1, 256, FAR[0], FAR[1]}) {
+      refused(x, "fill(" + grey + ")", ARGUMENT, () -> x.fill(grey));
+    }
+  }
+
+  private void promise3Box() {
+    GreyReel x = new GreyReel();
+    due("box within", x.box(10, 6, 9, 9, 200), 81);
+    due("the sum then", sumOfCanvas(x), 81 * 200);
+    due("its left upper point", x.canvasAt(10, 6), 200);
+    due("its right lower point", x.canvasAt(18, 14), 200);
+    due("the point on its right", x.canvasAt(19, 14), 0);
+    due("the point below", x.canvasAt(18, 15), 0);
+    due("box of the same grey", x.box(10, 6, 9, 9, 200), 81);
+    due("box beyond the left rim", x.box(-32, 0, 32, 32, 9), 0);
+    due("box that comes in by one", x.box(-31, -31, 32, 32, 9), 1);
+    due("box beyond the right rim", x.box(32, 0, 32, 32, 9), 0);
+    due("box beyond the last line", x.box(0, 24, 32, 8, 9), 0);
+    due("box at 32, 32", x.box(32, 32, 1, 1, 9), 0);
+    due("box in the last corner", x.box(31, 23, 32, 32, 9), 1);
+    due("box of all", x.box(0, 0, 32, 32, 255), 768);
+    due("the sum then", sumOfCanvas(x), 768 * 255);
+    int[][] wrong = {
+      {-33, 0, 1, 1, 1}, {33, 0, 1, 1, 1}, {0, -33, 1, 1, 1}, {0, 33, 1, 1, 1}, {0, 0, 0, 1, 1},
+      {0, 0, 33, 1, 1}, {0, 0, 1, 0, 1}, {0, 0, 1, 33, 1}, {0, 0, 1, 1, -1}, {0, 0, 1, 1, 256},
+      {FAR[0], FAR[0], FAR[0], FAR[0], FAR[0]}, {FAR[1], 0, FAR[1], 1, 1}
+    };
+    for (int[] w : wrong) {
+      refused(x, "box(" + java.util.Arrays.toString(w) + ")", ARGUMENT,
+          () -> x.box(w[0], w[1], w[2], w[3], w[4]));
+    }
+  }
+
+  private void promise4Ramp() {
+    GreyReel x = new GreyReel();
+    due("ramp(-255, 0, 0) of black", x.ramp(-255, 0, 0), 0);
+    due("ramp(100, 0, 0)", x.ramp(100, 0, 0), 76800);
+    // -x // 8: 0 once, -1 for 1 to 8, -2 to 16, -3 to 24, -4 for 25 to 31.
+    due("ramp(0, -1, 0)", x.ramp(0, -1, 0), 76800 - 24 * (8 + 16 + 24 + 28));
+    due("its point 8", x.canvasAt(8, 5), 99);
+    due("its point 9", x.canvasAt(9, 5), 98);
+    x.fill(0);
+    due("ramp(0, 0, 8)", x.ramp(0, 0, 8), 32 * (23 * 24 / 2));
+    x.ramp(255, 80, 80);
+    due("ramp up to white", x.canvasAt(1, 0), 255);
+    x.ramp(-255, -80, -80);
+    due("ramp down to black", sumOfCanvas(x), 0);
+    int[][] wrong = {
+      {-256, 0, 0}, {256, 0, 0}, {0, -81, 0}, {0, 81, 0}, {0, 0, -81}, {0, 0, 81},
+      {FAR[0], FAR[0], FAR[0]}, {FAR[1], FAR[1], FAR[1]}
+    };
+    for (int[] w : wrong) {
+      refused(x, "ramp(" + java.util.Arrays.toString(w) + ")", ARGUMENT,
+          () -> x.ramp(w[0], w[1], w[2]));
+    }
+  }
+
+  private void promise5Noise() {
+    GreyReel x = new GreyReel();
+    x.fill(100);
+    int r = 77;
+    for (int at = 0; at < 768; at++) {
+      r = (r * 1103 + 12345) % 65536;
+    }
+    due("noise(77, 0)", x.noise(77, 0), r);
+    due("the sum behind noise of strength 0", sumOfCanvas(x), 76800);
+    due("noise(77, 3)", x.noise(77, 3), r);
+    // 77 * 1103 + 12345 = 97276, less 65536 is 31740; >> 4 is 1983; % 7 is 2; less 3 is -1.
+    due("its first point", x.canvasAt(0, 0), 99);
+    // 31740 * 1103 + 12345 = 35021565, % 65536 is 25341; >> 4 is 1583; % 7 is 1; less 3 is -2.
+    due("its second point", x.canvasAt(1, 0), 98);
+    x.fill(0);
+    x.noise(77, 3);
+    due("a point that would be below black", x.canvasAt(0, 0), 0);
+    x.noise(65535, 60);
+    x.noise(0, 60);
+    int[][] wrong = {
+      {-1, 0}, {65536, 0}, {0, -1}, {0, 61}, {FAR[0], FAR[0]}, {FAR[1], FAR[1]}
+    };
+    for (int[] w : wrong) {
+      refused(x, "noise(" + w[0] + ", " + w[1] + ")", ARGUMENT, () -> x.noise(w[0], w[1]));
+    }
+  }
+
+  private void promise6Shift() {
+    GreyReel x = new GreyReel();
+    x.box(0, 0, 1, 24, 50);
+    due("shift(1, 0) of a rim", x.shift(1, 0), 24);
+    due("the rim goes on", x.canvasAt(0, 3), 50);
+    due("and has come to the next point", x.canvasAt(1, 3), 50);
+    due("shift(-1, 0)", x.shift(-1, 0), 24);
+    due("shift(0, 16) of columns", x.shift(0, 16), 0);
+    x.fill(0);
+    x.box(5, 7, 1, 1, 200);
+    due("shift(2, -3)", x.shift(2, -3), 2);
+    due("the point has come", x.canvasAt(7, 4), 200);
+    due("shift(0, 0)", x.shift(0, 0), 0);
+    due("shift(16, 16)", x.shift(16, 16), 2);
+    due("the point has come", x.canvasAt(23, 20), 200);
+    due("shift(-16, -16)", x.shift(-16, -16), 2);
+    due("shift(-16, -16) out", x.shift(-16, -16), 1);
+    due("the sum then", sumOfCanvas(x), 0);
+    int[][] wrong = {{-17, 0}, {17, 0}, {0, -17}, {0, 17}, {FAR[0], 0}, {0, FAR[1]}};
+    for (int[] w : wrong) {
+      refused(x, "shift(" + w[0] + ", " + w[1] + ")", ARGUMENT, () -> x.shift(w[0], w[1]));
+    }
+  }
+
+  private void wrongPoints(GreyReel x, String what, java.util.function.IntBinaryOperator ask) {
+    int[][] wrong = {
+      {-1, 0}, {32, 0}, {0, -1}, {0, 24}, {FAR[0], 0}, {FAR[1], 0}, {0, FAR[0]}, {0, FAR[1]}
+    };
+    for (int[] w : wrong) {
+      refused(x, what + "(" + w[0] + ", " + w[1] + ")", INDEX, () -> ask.applyAsInt(w[0], w[1]));
+    }
+  }
+
+  private void promise7CanvasAt() {
+    GreyReel x = new GreyReel();
+    x.box(31, 23, 1, 1, 9);
+    x.box(0, 1, 1, 1, 8);
+    due("canvasAt(31, 23)", x.canvasAt(31, 23), 9);
+    due("canvasAt(0, 1)", x.canvasAt(0, 1), 8);
+    due("canvasAt(1, 0)", x.canvasAt(1, 0), 0);
+    wrongPoints(x, "canvasAt", x::canvasAt);
+  }
+
+  private void promises8To11Settings() {
+    GreyReel x = new GreyReel();
+    due("setStep(60)", x.setStep(60), 8);
+    due("setStep(1)", x.setStep(1), 60);
+    due("setStep(7)", x.setStep(7), 1);
+    due("step()", x.step(), 7);
+    due("setTarget(400)", x.setTarget(400), 0);
+    due("setTarget(0)", x.setTarget(0), 400);
+    due("setTarget(33)", x.setTarget(33), 0);
+    due("setInterval(24)", x.setInterval(24), 12);
+    due("setInterval(1)", x.setInterval(1), 24);
+    due("setInterval(5)", x.setInterval(5), 1);
+    due("setSmoothing(false)", x.setSmoothing(false), true);
+    due("setSmoothing(false) again", x.setSmoothing(false), false);
+    due("setSmoothing(true)", x.setSmoothing(true), false);
+    for (int wrong : new int[] {0, 61, -1, FAR[0], FAR[1]}) {
+      refused(x, "setStep(" + wrong + ")", ARGUMENT, () -> x.setStep(wrong));
+    }
+    for (int wrong : new int[] {-1, 401, FAR[0], FAR[1]}) {
+      refused(x, "setTarget(" + wrong + ")", ARGUMENT, () -> x.setTarget(wrong));
+    }
+    for (int wrong : new int[] {0, 25, -1, FAR[0], FAR[1]}) {
+      refused(x, "setInterval(" + wrong + ")", ARGUMENT, () -> x.setInterval(wrong));
+    }
+    due("step() behind all of these", x.step(), 7);
+  }
+
+  private void promise12AskKey() {
+    GreyReel x = tiled();
+    due("askKey() of the first", x.askKey(), true);
+    x.code();
+    due("askKey() of the second", x.askKey(), false);
+    due("askKey() once more", x.askKey(), true);
+    x.code();
+    due("isKey(1), asked for", x.isKey(1), true);
+    x.code();
+    due("isKey(2), not asked for", x.isKey(2), false);
+    x.setInterval(2);
+    due("askKey() by the interval", x.askKey(), true);
+    x.setInterval(3);
+    x.code();
+    due("isKey(3), asked for although it was due", x.isKey(3), true);
+    x.code();
+    due("isKey(4)", x.isKey(4), false);
+    due("askKey() with one DELTA of the two", x.askKey(), false);
+    GreyReel full = full();
+    due("isKey(23) of a still canvas", full.isKey(23), false);
+    due("askKey() with 24 pictures, 11 of them DELTAs behind a KEY", full.askKey(), true);
+    full.setInterval(13);
+    due("askKey() with 24 pictures, asked before", full.askKey(), true);
+    GreyReel other = full();
+    other.setInterval(13);
+    due("askKey() with 24 pictures, 12 DELTAs wanted", other.askKey(), false);
+  }
+
+  private void promise13Code() {
+    GreyReel x = new GreyReel();
+    due("code() of black", x.code(), 36);
+    due("pictures()", x.pictures(), 1);
+    // Nine blocks of it are FLAT for less than SKIP, so it is a KEY once more.
+    due("code() of black again", x.code(), 36);
+    GreyReel still = tiled();
+    still.code();
+    due("code() of tiles again", still.code(), 9);
+    GreyReel full = full();
+    refused(full, "code() with 24 pictures", STATE, full::code);
+    due("pictures() then", full.pictures(), 24);
+    GreyReel every = new GreyReel();
+    every.setInterval(1);
+    for (int i = 0; i < 3; i++) {
+      every.code();
+      due("isKey(" + i + ") with the interval 1", every.isKey(i), true);
+    }
+    GreyReel fourth = tiled();
+    fourth.setInterval(4);
+    for (int i = 0; i < 9; i++) {
+      fourth.code();
+      due("isKey(" + i + ") with the interval 4", fourth.isKey(i), i % 4 == 0);
+    }
+    GreyReel late = tiled();
+    late.setInterval(24);
+    for (int i = 0; i < 24; i++) {
+      late.code();
+    }
+    due("isKey(23) with the interval 24", late.isKey(23), false);
+  }
+
+  private void rate() {
+    // Black has 36 bytes as a KEY, a tiled canvas 9 as a DELTA behind itself.
+    int[][] key = {{9, 11}, {10, 8}, {16, 8}, {17, 7}, {0, 8}};
+    for (int[] row : key) {
+      GreyReel x = new GreyReel();
+      x.setTarget(row[0]);
+      x.code();
+      due("step() behind a KEY with the target " + row[0], x.step(), row[1]);
+    }
+    int[][] delta = {{7, 6}, {8, 4}, {12, 4}, {13, 3}, {0, 4}};
+    for (int[] row : delta) {
+      GreyReel x = tiled();
+      x.code();
+      x.setTarget(row[0]);
+      x.code();
+      due("step() behind a DELTA with the target " + row[0], x.step(), row[1]);
+    }
+    GreyReel top = new GreyReel();
+    top.setTarget(1);
+    top.setStep(50);
+    top.code();
+    due("step() at the top", top.step(), 60);
+    due("stepOf(0)", top.stepOf(0), 50);
+    top.code();
+    due("step() stays at the top", top.step(), 60);
+    due("stepOf(1)", top.stepOf(1), 60);
+    GreyReel least = new GreyReel();
+    least.setTarget(400);
+    least.setStep(2);
+    least.code();
+    due("step() goes down", least.step(), 1);
+    least.code();
+    due("step() stays at 1", least.step(), 1);
+  }
+
+  private void promises14To17Pictures() {
+    GreyReel x = painted();
+    for (int i = 0; i < 3; i++) {
+      due("pictures()", x.pictures(), i);
+      x.setStep(10 + i);
+      due("step()", x.step(), 10 + i);
+      x.code();
+    }
+    for (int i = 0; i < 3; i++) {
+      due("isKey(" + i + ")", x.isKey(i), i == 0);
+      due("stepOf(" + i + ")", x.stepOf(i), 10 + i);
+    }
+    for (int wrong : new int[] {-1, 3, 24, FAR[0], FAR[1]}) {
+      refused(x, "isKey(" + wrong + ")", INDEX, () -> x.isKey(wrong));
+      refused(x, "stepOf(" + wrong + ")", INDEX, () -> x.stepOf(wrong));
+    }
+  }
+
+  private void promises18To22Blocks() {
+    GreyReel x = new GreyReel();
+    x.code();
+    for (int block = 0; block < 12; block++) {
+      due("kindOf(0, " + block + ") of black", x.kindOf(0, block), 2);
+      due("levels(0, " + block + ") of black", x.levels(0, block), block % 4 == 0 ? 4 : 0);
+      due("vectorX(0, " + block + ") of FLAT", x.vectorX(0, block), 0);
+      due("vectorY(0, " + block + ") of FLAT", x.vectorY(0, block), 0);
+    }
+    // S(0, 0) is -16 * 128, its level -(2048 + 10) / 32.
+    due("levelAt(0, 4, 3, 0) of black", x.levelAt(0, 4, 3, 0), -64);
+    due("levelAt(0, 4, 3, 1) of black", x.levelAt(0, 4, 3, 1), 0);
+    due("levelAt(0, 5, 0, 0) of black", x.levelAt(0, 5, 0, 0), 0);
+    x.code();
+    GreyReel still = tiled();
+    still.code();
+    still.code();
+    for (int block = 0; block < 12; block++) {
+      due("kindOf(1, " + block + ") of tiles again", still.kindOf(1, block), 0);
+      due("levels(1, " + block + ") of tiles again", still.levels(1, block), 0);
+    }
+    for (int picture : new int[] {-1, 2, FAR[0], FAR[1]}) {
+      wrongBlock(x, picture, 0);
+    }
+    for (int block : new int[] {-1, 12, FAR[0], FAR[1]}) {
+      wrongBlock(x, 0, block);
+    }
+    int[][] wrong = {{-1, 0}, {4, 0}, {0, -1}, {0, 16}, {FAR[0], 0}, {3, FAR[1]}, {FAR[1], 15}};
+    for (int[] w : wrong) {
+      refused(x, "levelAt(0, 11, " + w[0] + ", " + w[1] + ")", INDEX,
+          () -> x.levelAt(0, 11, w[0], w[1]));
+    }
+  }
+
+  private void wrongBlock(GreyReel x, int picture, int block) {
+    String where = "(" + picture + ", " + block + ")";
+    refused(x, "kindOf" + where, INDEX, () -> x.kindOf(picture, block));
+    refused(x, "vectorX" + where, INDEX, () -> x.vectorX(picture, block));
+    refused(x, "vectorY" + where, INDEX, () -> x.vectorY(picture, block));
+    refused(x, "levels" + where, INDEX, () -> x.levels(picture, block));
+    refused(x, "levelAt" + where, INDEX, () -> x.levelAt(picture, block, 0, 0));
+  }
+
+  private void foretelling() {
+    GreyReel x = painted();
+    x.setSmoothing(false);
+    x.setStep(1);
+    x.code();
+    x.shift(3, -2);
+    x.code();
+    due("kindOf(1, 5) of what has moved", x.kindOf(1, 5) <= 1, true);
+    due("vectorX(1, 5) of what has moved", x.vectorX(1, 5), -6);
+    due("vectorY(1, 5) of what has moved", x.vectorY(1, 5), 4);
+    GreyReel half = new GreyReel();
+    half.setSmoothing(false);
+    half.setStep(1);
+    half.ramp(20, 16, 0);
+    half.code();
+    half.ramp(1, 0, 0);
+    half.code();
+    // A slope of 2 a point, made brighter by 1, is that slope half a point further on.
+    due("vectorX(1, 5) by half a point", half.vectorX(1, 5), 1);
+    due("kindOf(1, 6) by half a point, as expected", half.kindOf(1, 6), 0);
+    due("vectorX(1, 6) of a SKIP", half.vectorX(1, 6), 1);
+    GreyReel stripes = new GreyReel();
+    for (int y = 0; y < 24; y++) {
+      stripes.box(0, y, 32, 1, y % 2 == 0 ? 40 : 200);
+    }
+    stripes.code();
+    due("kindOf(0, 0) of stripes", stripes.kindOf(0, 0), 2);
+    due("kindOf(0, 1) of stripes", stripes.kindOf(0, 1), 3);
+    GreyReel slope = new GreyReel();
+    slope.setStep(1);
+    slope.ramp(10, 40, 0);
+    slope.code();
+    due("kindOf(0, 4) of a slope", slope.kindOf(0, 4), 2);
+    due("kindOf(0, 5) of a slope", slope.kindOf(0, 5), 4);
+    due("priceOf(5) of a slope, as a KEY", priceOfKey(slope, 5), 2);
+  }
+
+  private static int priceOfKey(GreyReel x, int block) {
+    x.askKey();
+    return x.priceOf(block);
+  }
+
+  private void keyAfterAll() {
+    GreyReel y = new GreyReel();
+    y.code();
+    y.fill(200);
+    int bytes = y.bytesWith(8);
+    int price = y.priceOf(0);
+    due("code() of another grey", y.code(), bytes);
+    due("isKey(1) of another grey", y.isKey(1), true);
+    due("kinds(1, 2) of another grey", y.kinds(1, 2), 12);
+    due("its first block's price", price, 64 * 72 + 8);
+    for (int fresh = 8; fresh <= 9; fresh++) {
+      GreyReel x = tiled();
+      x.code();
+      x.box(0, 0, 32, 16, 128);
+      if (fresh == 9) {
+        x.box(0, 16, 8, 8, 128);
+      }
+      boolean wasDue = x.priceOf(9) != 8;
+      x.code();
+      due("isKey(1) with new blocks, " + fresh, x.isKey(1), fresh > 8);
+      due("a price of it, other than that of SKIP, " + fresh, wasDue, fresh > 8);
+      due("kinds(1, 0) with new blocks, " + fresh, x.kinds(1, 0), fresh > 8 ? 0 : 4);
+      x.setInterval(2);
+      due("askKey() behind it, " + fresh, x.askKey(), fresh == 8);
+    }
+  }
+
+  private void smoothing() {
+    GreyReel x = new GreyReel();
+    x.setStep(4);
+    x.fill(90);
+    x.box(16, 0, 16, 24, 102);
+    x.code();
+    x.setSmoothing(false);
+    x.askKey();
+    x.code();
+    due("resultAt(1, 15, 5) as it is", x.resultAt(1, 15, 5), 90);
+    due("resultAt(1, 16, 5) as it is", x.resultAt(1, 16, 5), 102);
+    // 12 is not above 2 * (4 + 2): e is 3.
+    due("resultAt(0, 15, 5) smoothed", x.resultAt(0, 15, 5), 93);
+    due("resultAt(0, 16, 5) smoothed", x.resultAt(0, 16, 5), 99);
+    due("resultAt(0, 14, 5)", x.resultAt(0, 14, 5), 90);
+    due("resultAt(0, 17, 5)", x.resultAt(0, 17, 5), 102);
+    due("errorOf(0)", x.errorOf(0), 2 * 9 * 24);
+    due("errorOf(1)", x.errorOf(1), 0);
+    GreyReel steep = new GreyReel();
+    steep.setStep(4);
+    steep.fill(90);
+    steep.box(16, 0, 16, 24, 104);
+    steep.code();
+    due("resultAt(0, 15, 5), too steep", steep.resultAt(0, 15, 5), 90);
+    GreyReel lines = new GreyReel();
+    lines.setStep(4);
+    lines.fill(102);
+    lines.box(0, 8, 32, 16, 90);
+    lines.code();
+    due("resultAt(0, 5, 7) smoothed", lines.resultAt(0, 5, 7), 99);
+    due("resultAt(0, 5, 8) smoothed", lines.resultAt(0, 5, 8), 93);
+    due("errorOf(0) of lines", lines.errorOf(0), 2 * 9 * 32);
+  }
+
+  private void promises23And24Results() {
+    GreyReel x = new GreyReel();
+    x.box(31, 23, 1, 1, 255);
+    x.setStep(1);
+    x.setSmoothing(false);
+    x.code();
+    due("resultAt(0, 31, 23)", x.resultAt(0, 31, 23), 255);
+    due("resultAt(0, 0, 0)", x.resultAt(0, 0, 0), 0);
+    due("errorOf(0) with the step 1", x.errorOf(0), 0);
+    wrongPoints(x, "resultAt(0)", (a, b) -> x.resultAt(0, a, b));
+    for (int wrong : new int[] {-1, 1, FAR[0], FAR[1]}) {
+      refused(x, "resultAt(" + wrong + ", 0, 0)", INDEX, () -> x.resultAt(wrong, 0, 0));
+      refused(x, "errorOf(" + wrong + ")", INDEX, () -> x.errorOf(wrong));
+    }
+    GreyReel rough = painted();
+    rough.setStep(30);
+    rough.code();
+    int sum = 0;
+    for (int at = 0; at < 768; at++) {
+      int off = rough.canvasAt(at % 32, at / 32) - rough.resultAt(0, at % 32, at / 32);
+      sum += off * off;
+    }
+    due("errorOf(0) of what is painted", rough.errorOf(0), sum);
+    checks.holds("errorOf(0) is something", sum > 0);
+    rough.fill(0);
+    due("errorOf(0) is of the canvas as it was", rough.errorOf(0), sum);
+  }
+
+  private void promises25To27Packets() {
+    GreyReel black = new GreyReel();
+    black.code();
+    GreyReel x = tiled();
+    x.code();
+    x.code();
+    // Number, KEY, q, smoothing; FLAT at place 2; four times one level, f of -64 is 128: once long,
+    // then with k 6, 6 and 7; then FLAT at place 0 and no levels, three times.
+    String key = "00000" + "1" + "001000" + "1" + "110"
+        + "10" + "111111111111" + "000010000000" + "10" + "110000000" + "10" + "110000000"
+        + "10" + "100000000" + "00000".repeat(3);
+    String delta = "00001" + "0" + "000100" + "0" + "0000";
+    for (int band = 0; band < 3; band++) {
+      packet(black, 0, band, key);
+      packet(x, 1, band, delta);
+    }
+    for (int picture : new int[] {-1, 2, FAR[0], FAR[1]}) {
+      wrongBand(x, picture, 0);
+    }
+    for (int band : new int[] {-1, 3, FAR[0], FAR[1]}) {
+      wrongBand(x, 0, band);
+    }
+    for (int place : new int[] {-1, 3, FAR[0], FAR[1]}) {
+      refused(x, "byteAt(1, 0, " + place + ")", INDEX, () -> x.byteAt(1, 0, place));
+      refused(x, "byteAt(1, 2, " + place + ")", INDEX, () -> x.byteAt(1, 2, place));
+    }
+  }
+
+  private void wrongBand(GreyReel x, int picture, int band) {
+    String where = "(" + picture + ", " + band + ")";
+    refused(x, "bytes" + where, INDEX, () -> x.bytes(picture, band));
+    refused(x, "bits" + where, INDEX, () -> x.bits(picture, band));
+    refused(x, "byteAt" + where, INDEX, () -> x.byteAt(picture, band, 0));
+    refused(x, "hand" + where, INDEX, () -> x.hand(picture, band));
+    refused(x, "hasGot" + where, INDEX, () -> x.hasGot(picture, band));
+  }
+
+  private void packet(GreyReel x, int picture, int band, String bits) {
+    String where = "(" + picture + ", " + band + ")";
+    due("bits" + where, x.bits(picture, band), bits.length());
+    due("bytes" + where, x.bytes(picture, band), (bits.length() + 7) / 8);
+    String padded = bits + "0".repeat((8 - bits.length() % 8) % 8);
+    for (int place = 0; place < padded.length() / 8; place++) {
+      int want = Integer.parseInt(padded.substring(8 * place, 8 * place + 8), 2);
+      due("byteAt" + where + " " + place, x.byteAt(picture, band, place), want);
+    }
+  }
+
+  private void promise28Kinds() {
+    GreyReel black = new GreyReel();
+    black.code();
+    GreyReel x = tiled();
+    x.code();
+    x.code();
+    for (int kind = 0; kind < 5; kind++) {
+      due("kinds(0, " + kind + ") of black", black.kinds(0, kind), kind == 2 ? 12 : 0);
+      due("kinds(1, " + kind + ") of tiles again", x.kinds(1, kind), kind == 0 ? 12 : 0);
+    }
+    int[][] wrong = {{-1, 0}, {2, 0}, {0, -1}, {0, 5}, {FAR[0], 0}, {0, FAR[1]}};
+    for (int[] w : wrong) {
+      refused(x, "kinds(" + w[0] + ", " + w[1] + ")", INDEX, () -> x.kinds(w[0], w[1]));
+    }
+  }
+
+  private void promises29And30And35Handing() {
+    GreyReel x = new GreyReel();
+    refused(x, "hand(0, 0) without pictures", INDEX, () -> x.hand(0, 0));
+    refused(x, "handAll(0) without pictures", INDEX, () -> x.handAll(0));
+    refused(x, "hasGot(0, 0) without pictures", INDEX, () -> x.hasGot(0, 0));
+    x.code();
+    x.code();
+    due("hand(0, 1)", x.hand(0, 1), true);
+    due("hand(0, 1) once more", x.hand(0, 1), false);
+    due("hasGot(0, 1)", x.hasGot(0, 1), true);
+    due("hasGot(0, 0)", x.hasGot(0, 0), false);
+    due("hasGot(1, 1)", x.hasGot(1, 1), false);
+    due("handAll(0) of the two others", x.handAll(0), 2);
+    due("handAll(0) of none", x.handAll(0), 0);
+    due("hand(1, 2) ahead of its turn", x.hand(1, 2), true);
+    x.show();
+    x.show();
+    due("hand(1, 0), too late", x.hand(1, 0), false);
+    due("handAll(1), too late", x.handAll(1), 0);
+    due("hasGot(1, 0), too late", x.hasGot(1, 0), false);
+    due("hasGot(1, 2), shown", x.hasGot(1, 2), true);
+    for (int wrong : new int[] {-1, 2, FAR[0], FAR[1]}) {
+      refused(x, "handAll(" + wrong + ")", INDEX, () -> x.handAll(wrong));
+    }
+  }
+
+  private void promises31To34Showing() {
+    GreyReel x = new GreyReel();
+    refused(x, "show() without pictures", STATE, x::show);
+    x.code();
+    x.hand(0, 1);
+    due("show() with a band of three", x.show(), 2);
+    due("shown()", x.shown(), 1);
+    due("shownAt(5, 7), concealed", x.shownAt(5, 7), 128);
+    due("shownAt(5, 8), got", x.shownAt(5, 8), 0);
+    due("shownAt(5, 15), got", x.shownAt(5, 15), 0);
+    due("shownAt(5, 16), concealed", x.shownAt(5, 16), 128);
+    due("drift()", x.drift(), 512 * 128);
+    refused(x, "show() of a picture that was not coded yet", STATE, x::show);
+    due("shown() then", x.shown(), 1);
+    wrongPoints(x, "shownAt", x::shownAt);
+    GreyReel y = tiled();
+    due("drift() at first", y.drift(), 0);
+    y.code();
+    y.hand(0, 1);
+    y.show();
+    int drift = y.drift();
+    int apart = 0;
+    for (int at = 0; at < 768; at++) {
+      apart += Math.abs(y.shownAt(at % 32, at / 32) - y.resultAt(0, at % 32, at / 32));
+    }
+    due("drift() of tiles", drift, apart);
+    y.code();
+    y.handAll(1);
+    due("show() of a DELTA on a wrong way", y.show(), 0);
+    due("drift() stays", y.drift(), drift);
+    y.code();
+    due("show() without a packet", y.show(), 3);
+    due("drift() stays then", y.drift(), drift);
+    y.askKey();
+    y.code();
+    y.handAll(3);
+    due("show() of a KEY", y.show(), 0);
+    due("drift() behind a KEY", y.drift(), 0);
+    due("shown()", y.shown(), 4);
+  }
+
+  private void concealment() {
+    GreyReel x = painted();
+    x.setSmoothing(false);
+    x.setStep(1);
+    x.code();
+    x.handAll(0);
+    x.show();
+    x.shift(3, 0);
+    x.code();
+    due("vectorX(1, 2)", x.vectorX(1, 2), -6);
+    x.hand(1, 0);
+    due("driftNext() is drift()", x.driftNext() == driftBehind(x), true);
+    // Band 1 goes along with the blocks above it; band 2, below one that was lost, stays.
+    due("shownAt(22, 10) has moved", x.shownAt(22, 10), x.resultAt(0, 19, 10));
+    due("shownAt(22, 20) has not", x.shownAt(22, 20), x.resultAt(0, 22, 20));
+    GreyReel seam = new GreyReel();
+    seam.setStep(4);
+    seam.fill(120);
+    seam.code();
+    seam.hand(0, 1);
+    seam.setSmoothing(false);
+    seam.show();
+    seam.setSmoothing(true);
+    // 128 above 120: the seam is smoothed by 2, as a packet was got.
+    due("shownAt(3, 7) of a picture got in part", seam.shownAt(3, 7), 126);
+    due("shownAt(3, 8) of a picture got in part", seam.shownAt(3, 8), 122);
+    due("shownAt(3, 16) of a picture got in part", seam.shownAt(3, 16), 126);
+    seam.code();
+    seam.show();
+    due("shownAt(3, 7), none got: not smoothed", seam.shownAt(3, 7), 126);
+    GreyReel plain = new GreyReel();
+    plain.setSmoothing(false);
+    plain.setStep(4);
+    plain.fill(120);
+    plain.code();
+    plain.hand(0, 1);
+    plain.setSmoothing(true);
+    plain.show();
+    due("shownAt(3, 7), not smoothed as the picture was not", plain.shownAt(3, 7), 128);
+    due("shownAt(3, 8), not smoothed as the picture was not", plain.shownAt(3, 8), 120);
+  }
+
+  private static int driftBehind(GreyReel x) {
+    x.show();
+    return x.drift();
+  }
+
+  private void promises36And37WouldBe() {
+    GreyReel x = painted();
+    x.code();
+    x.shift(1, 1);
+    x.noise(77, 3);
+    long before = x.digest();
+    int[] bytes = new int[61];
+    for (int q = 1; q <= 60; q++) {
+      bytes[q] = x.bytesWith(q);
+    }
+    due("digest() behind bytesWith()", x.digest(), before);
+    due("step() behind bytesWith()", x.step(), 8);
+    x.setStep(13);
+    int price = x.priceOf(7);
+    due("code() with the step 13", x.code(), bytes[13]);
+    checks.holds("a price of a block", price > 13);
+    GreyReel black = new GreyReel();
+    due("bytesWith(8) of black", black.bytesWith(8), 36);
+    due("priceOf(0) of black", black.priceOf(0), 64 * 128 + 8);
+    due("priceOf(1) of black", black.priceOf(1), 8);
+    black.code();
+    due("priceOf(1) of black again, FLAT", black.priceOf(1), 8);
+    GreyReel still = tiled();
+    still.code();
+    due("priceOf(1) of tiles again, a SKIP", still.priceOf(1), 8);
+    due("bytesWith(60) of tiles again", still.bytesWith(60), 9);
+    still.setStep(60);
+    due("priceOf(1) with the step 60", still.priceOf(1), 120);
+    for (int wrong : new int[] {0, 61, -1, FAR[0], FAR[1]}) {
+      refused(black, "bytesWith(" + wrong + ")", ARGUMENT, () -> black.bytesWith(wrong));
+    }
+    for (int wrong : new int[] {-1, 12, FAR[0], FAR[1]}) {
+      refused(black, "priceOf(" + wrong + ")", INDEX, () -> black.priceOf(wrong));
+    }
+    GreyReel full = full();
+    refused(full, "bytesWith(8) with 24 pictures", STATE, () -> full.bytesWith(8));
+    refused(full, "bytesWith(61) with 24 pictures", ARGUMENT, () -> full.bytesWith(61));
+    refused(full, "priceOf(0) with 24 pictures", STATE, () -> full.priceOf(0));
+    refused(full, "priceOf(12) with 24 pictures", INDEX, () -> full.priceOf(12));
+  }
+
+  private void promise38DriftNext() {
+    GreyReel x = new GreyReel();
+    due("driftNext() without pictures", x.driftNext(), -1);
+    x.code();
+    due("driftNext() with nothing got", x.driftNext(), 768 * 128);
+    x.hand(0, 2);
+    due("driftNext() with a band got", x.driftNext(), 512 * 128);
+    x.handAll(0);
+    due("driftNext() with all got", x.driftNext(), 0);
+    due("shown() behind driftNext()", x.shown(), 0);
+    due("shownAt(0, 0) behind driftNext()", x.shownAt(0, 0), 128);
+    x.show();
+    due("driftNext() behind the last", x.driftNext(), -1);
+  }
+
+  private void promises39And40Sums() {
+    GreyReel x = painted();
+    due("bytesOfAll() without pictures", x.bytesOfAll(), 0);
+    due("meanError() without pictures", x.meanError(), 0.0);
+    int bytes = x.code();
+    x.noise(5, 9);
+    bytes += x.code();
+    x.shift(1, 1);
+    bytes += x.code();
+    due("bytesOfAll()", x.bytesOfAll(), bytes);
+    double errors = (double) x.errorOf(0) + x.errorOf(1) + x.errorOf(2);
+    due("meanError()", x.meanError(), errors / 3);
+  }
+
+  private void promise41Digest() {
+    GreyReel x = new GreyReel();
+    due("digest() of a new object", x.digest(), digestByAsking(x));
+    x.ramp(60, 20, 10);
+    x.noise(3, 30);
+    due("digest() with a canvas", x.digest(), digestByAsking(x));
+    x.code();
+    x.shift(2, 1);
+    x.code();
+    x.setStep(19);
+    x.code();
+    x.hand(0, 0);
+    x.hand(2, 1);
+    x.show();
+    due("digest() with pictures", x.digest(), digestByAsking(x));
+    checks.holds("digest() of two objects", x.digest() != new GreyReel().digest());
+    due("digest() with 24 pictures", full().digest(), digestByAsking(full()));
+  }
+
+  private static long digestByAsking(GreyReel x) {
+    long d = 58019;
+    int[] first = {x.pictures(), x.step(), x.shown(), x.drift(), x.bytesOfAll()};
+    for (int number : first) {
+      d = d * 31 + number;
+    }
+    for (int p = 0; p < x.pictures(); p++) {
+      d = ((d * 31 + (x.isKey(p) ? 1 : 0)) * 31 + x.stepOf(p)) * 31 + x.errorOf(p);
+      for (int b = 0; b < 12; b++) {
+        d = (d * 31 + x.kindOf(p, b)) * 31 + x.vectorX(p, b);
+        d = (d * 31 + x.vectorY(p, b)) * 31 + x.levels(p, b);
+      }
+      for (int band = 0; band < 3; band++) {
+        d = ((d * 31 + x.bytes(p, band)) * 31 + x.bits(p, band)) * 31 + (x.hasGot(p, band) ? 1 : 0);
+        for (int place = 0; place < x.bytes(p, band); place++) {
+          d = d * 31 + x.byteAt(p, band, place);
+        }
+      }
+    }
+    for (int at = 0; at < 768; at++) {
+      d = d * 31 + x.canvasAt(at % 32, at / 32);
+    }
+    for (int at = 0; at < 768 && x.pictures() > 0; at++) {
+      d = d * 31 + x.resultAt(x.pictures() - 1, at % 32, at / 32);
+    }
+    for (int at = 0; at < 768; at++) {
+      d = d * 31 + x.shownAt(at % 32, at / 32);
+    }
+    return d;
+  }
+
+  private void runAll() {
+    promise1NewObject();
+    promise2Fill();
+    promise3Box();
+    promise4Ramp();
+    promise5Noise();
+    promise6Shift();
+    promise7CanvasAt();
+    promises8To11Settings();
+    promise12AskKey();
+    promise13Code();
+    rate();
+    promises14To17Pictures();
+    promises18To22Blocks();
+    foretelling();
+    keyAfterAll();
+    smoothing();
+    promises23And24Results();
+    promises25To27Packets();
+    promise28Kinds();
+    promises29And30And35Handing();
+    promises31To34Showing();
+    concealment();
+    promises36And37WouldBe();
+    promise38DriftNext();
+    promises39And40Sums();
+    promise41Digest();
+    checks.end();
+  }
+
+  public static void main(String[] args) {
+    new PromisesTest().runAll();
+  }
+}
