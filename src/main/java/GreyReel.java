@@ -813,6 +813,9 @@ public final class GreyReel {
 
   /** Chooses how the blocks of a canvas are coded. */
   private static final class Coder {
+    // No PRICE comes near it: 64 * 255 for the points, and 26 * 60 for a vector.
+    private static final int BEYOND_ANY_PRICE = 1 << 20;
+
     final Studio studio = new Studio();
     private int bestKind = FLAT;
     private int bestX = 0;
@@ -838,7 +841,7 @@ public final class GreyReel {
 
     private void codeBlock(Picture picture, int[] canvas, int block) {
       int q = picture.q;
-      bestPrice = Integer.MAX_VALUE;
+      bestPrice = BEYOND_ANY_PRICE;
       if (!picture.isKeyPicture) {
         seekVector(picture, canvas, block);
       }

@@ -8,6 +8,7 @@ public final class ModelTest {
 
   private static int wrong = 0;
   private static int calls = 0;
+  private static int largest = 0;
 
   private final Random random;
   private final GreyReel x = new GreyReel();
@@ -235,10 +236,37 @@ public final class ModelTest {
     askAll();
   }
 
+  /** Black and white points: levels of all sizes in all places, and the longest packets. */
+  private void playDearest() {
+    for (int picture = 0; picture < 3; picture++) {
+      int rough = 1 + random.nextInt(4);
+      for (int at = 0; at < 768; at++) {
+        int grey = random.nextInt(rough) == 0 ? 255 : 0;
+        int column = at % 32;
+        int line = at / 32;
+        same("box", () -> x.box(column, line, 1, 1, grey), () -> m.box(column, line, 1, 1, grey));
+      }
+      int q = 1 + random.nextInt(3);
+      same("setStep", () -> x.setStep(q), () -> m.setStep(q));
+      same("code", x::code, m::code);
+      same("handAll", () -> x.handAll(0), () -> m.handAll(0));
+    }
+    same("show", x::show, m::show);
+    askAll();
+    largest = Math.max(largest, x.bytesOfAll());
+  }
+
   public static void main(String[] args) {
     int runs = args.length > 0 ? Integer.parseInt(args[0]) : 250;
     for (int run = 1; run <= runs; run++) {
       new ModelTest(run).play(30 + 170 * (run % 2));
+    }
+    for (int run = 1; run <= 20; run++) {
+      new ModelTest(-run).playDearest();
+    }
+    if (largest < 3 * 850) {
+      wrong++;
+      System.out.println("no three pictures had more bytes than " + largest);
     }
     System.out.println("ModelTest: " + calls + " calls, " + wrong + " answers not as due");
     if (wrong != 0) {

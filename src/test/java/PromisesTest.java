@@ -328,6 +328,7 @@ public final class PromisesTest {
       x.code();
       due("step() behind a DELTA with the target " + row[0], x.step(), row[1]);
     }
+    rateOnTheEdge();
     GreyReel top = new GreyReel();
     top.setTarget(1);
     top.setStep(50);
@@ -344,6 +345,28 @@ public final class PromisesTest {
     due("step() goes down", least.step(), 1);
     least.code();
     due("step() stays at 1", least.step(), 1);
+  }
+
+  /** KEYs of 15 * n bytes, which are five quarters of three times the target 4 * n. */
+  private void rateOnTheEdge() {
+    int found = 0;
+    for (int seed = 0; seed < 200; seed++) {
+      GreyReel x = new GreyReel();
+      x.noise(seed, 30);
+      int bytes = x.bytesWith(8);
+      if (bytes % 15 == 0) {
+        found++;
+        x.setTarget(bytes / 15 * 4);
+        x.code();
+        due("step() behind a KEY of just five quarters, " + bytes, x.step(), 8);
+        x = new GreyReel();
+        x.noise(seed, 30);
+        x.setTarget(bytes / 15 * 4 - 1);
+        x.code();
+        due("step() behind a KEY of more, " + bytes, x.step(), 11);
+      }
+    }
+    checks.holds("some KEYs of 15 * n bytes", found > 0);
   }
 
   private void promises14To17Pictures() {
@@ -777,6 +800,8 @@ public final class PromisesTest {
     due("bytesOfAll() without pictures", x.bytesOfAll(), 0);
     due("meanError() without pictures", x.meanError(), 0.0);
     int bytes = x.code();
+    checks.holds("errorOf(0) is something", x.errorOf(0) > 0);
+    due("meanError() of one picture", x.meanError(), (double) x.errorOf(0));
     x.noise(5, 9);
     bytes += x.code();
     x.shift(1, 1);
