@@ -35,6 +35,10 @@ final class Checks {
     due(what, got, due.getSimpleName());
   }
 
+  int made() {
+    return made;
+  }
+
   void end() {
     System.out.println(name + ": " + made + " checks, " + wrong + " wrong");
     if (wrong != 0) {
