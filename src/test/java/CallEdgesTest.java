@@ -877,6 +877,7 @@ public final class CallEdgesTest {
       empty.add(at < 768 ? 0 : 128);
     }
     due("of a new object, without a latest picture", new GreyReel().digest(), wrapped(empty));
+    due("of a canvas without pictures", Paint.tiled().digest(), wrapped(numbersOf(Paint::tiled)));
     due("of three pictures", Paint.busy().digest(), wrapped(numbersOf(Paint::busy)));
     due("of 24 pictures", Paint.full().digest(), wrapped(numbersOf(Paint::full)));
     on.sentence("Promise 41", "Returns d.");
@@ -943,8 +944,13 @@ public final class CallEdgesTest {
     for (int at = 0; at < 3 * 768; at++) {
       int x = at % 32;
       int y = at / 32 % 24;
-      n.add(at < 768 ? of.next().canvasAt(x, y)
-          : at < 2 * 768 ? of.next().resultAt(pictures - 1, x, y) : of.next().shownAt(x, y));
+      if (at < 768) {
+        n.add(of.next().canvasAt(x, y));
+      } else if (at >= 2 * 768) {
+        n.add(of.next().shownAt(x, y));
+      } else if (pictures > 0) {
+        n.add(of.next().resultAt(pictures - 1, x, y));
+      }
     }
     return n;
   }

@@ -12,8 +12,12 @@ public final class PacketEdgesTest {
   }
 
   private static String bitsOf(GreyReel x, int picture, int band) {
+    return firstBits(x, picture, band, x.bytes(picture, band));
+  }
+
+  private static String firstBits(GreyReel x, int picture, int band, int bytes) {
     StringBuilder bits = new StringBuilder();
-    for (int place = 0; place < x.bytes(picture, band); place++) {
+    for (int place = 0; place < bytes; place++) {
       bits.append(Integer.toBinaryString(256 + x.byteAt(picture, band, place)).substring(1));
     }
     return bits.toString();
@@ -32,10 +36,10 @@ public final class PacketEdgesTest {
     on.sentence("Term 6", "as many 0 behind them as the last byte needs");
     boolean[] seen = new boolean[8];
     for (int seed = 0; seed < 12; seed++) {
-      GreyReel x = new GreyReel();
-      x.noise(seed * 977, 40);
-      x.code();
       for (int band = 0; band < 3; band++) {
+        GreyReel x = new GreyReel();
+        x.noise(seed * 977, 40);
+        x.code();
         int bits = x.bits(0, band);
         due("bytes of bits, " + bits, x.bytes(0, band), bits % 8 == 0 ? bits / 8 : bits / 8 + 1);
         String written = bitsOf(x, 0, band);
@@ -46,13 +50,19 @@ public final class PacketEdgesTest {
     for (int rest = 0; rest < 8; rest++) {
       on.holds("a packet with bits in its last byte, " + rest, seen[rest]);
     }
+    // Noise upon noise is black and white at last: more bytes than the picture has points.
     GreyReel dearest = Paint.exact();
-    for (int y = 0; y < 24; y++) {
-      for (int at = y % 2; at < 32 && y < 12; at += 2) {
-        dearest.box(at, y, 1, 1, 255);
-      }
+    dearest.fill(128);
+    for (int seed = 0; seed < 32; seed++) {
+      dearest.noise(seed * 1009, 60);
     }
-    dearest.code();
+    on.holds("code() of black and white points", dearest.code() > 900);
+    for (int band = 0; band < 3; band++) {
+      int last = dearest.bytes(0, band) - 1;
+      on.holds("bytes of a band of them", last > 290);
+      int fill = 8 * (last + 1) - dearest.bits(0, band);
+      due("what fills them", dearest.byteAt(0, band, last) & (1 << fill) - 1, 0);
+    }
     due("bands with packets", dearest.handAll(0), 3);
     due("driftNext() of it", dearest.driftNext(), 0);
   }
@@ -72,7 +82,7 @@ public final class PacketEdgesTest {
     for (int i = 0; i < pictures.length; i++) {
       for (int band = 0; band < 3; band++) {
         due("the beginning of " + pictures[i] + ", " + band,
-            bitsOf(x, pictures[i], band).substring(0, 13), starts[i]);
+            firstBits(x, pictures[i], band, 2).substring(0, 13), starts[i]);
       }
     }
     on.sentence("Term 6", "Then the blocks of the band, in order:");
@@ -455,9 +465,11 @@ public final class PacketEdgesTest {
   }
 
   private void isMoved(String what, GreyReel x, int y, boolean moved) {
-    int column = moved ? 20 - 3 : 20;
-    int line = moved ? Math.min(y + 2, 23) : y;
-    due(what, x.shownAt(20, y), x.resultAt(0, column, line));
+    for (int at = 0; at < 32; at++) {
+      int column = moved ? Math.max(at - 3, 0) : at;
+      int line = moved ? Math.min(y + 2, 23) : y;
+      due(what + ", point " + at, x.shownAt(at, y), x.resultAt(0, column, line));
+    }
   }
 
   private void concealed() {

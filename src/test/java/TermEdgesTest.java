@@ -602,6 +602,8 @@ public final class TermEdgesTest {
     boards.code();
     due("vector, four ways as good, rising vy first", vector(boards), "0 -4");
     neighbours();
+    noFarNeighbours();
+    noneBeyond();
     lessThanItsOwn();
   }
 
@@ -634,6 +636,70 @@ public final class TermEdgesTest {
     board.box(0, 8, 8, 8, 128);
     board.code();
     due("vector, four neighbours as good", vector(board), "0 -1");
+  }
+
+  /**
+   * Stripes so strong that all even vectors are as bad, and 0, 0 costs least; between the stripes a
+   * slope of 4 a point, and block 5 is a point further on it: two halves, one too far for i or k.
+   */
+  private void noFarNeighbours() {
+    for (int way = -1; way <= 1; way += 2) {
+      GreyReel across = Paint.lines(Paint.exact(), Paint.alternating(10, 110));
+      across.ramp(0, 32, 0);
+      across.code();
+      across.box(0, 8, 8, 8, 128);
+      for (int at = 8; at < 16; at++) {
+        across.box(at, 8, 1, 8, 60 + 4 * (at + way));
+      }
+      across.code();
+      due("errorOf(0) of stripes on a slope", across.errorOf(0), 0);
+      due("vector, two halves across are no neighbour", vector(across), way + " -1");
+      GreyReel down = Paint.columns(Paint.exact(), Paint.alternating(10, 110));
+      down.ramp(0, 0, 32);
+      down.code();
+      down.box(0, 8, 8, 8, 128);
+      for (int at = 8; at < 16; at++) {
+        down.box(8, at, 8, 1, 60 + 4 * (at + way));
+      }
+      down.code();
+      due("errorOf(0) of stripes on a slope down", down.errorOf(0), 0);
+      due("vector, two halves down are no neighbour", vector(down), "-1 " + way);
+    }
+  }
+
+  /**
+   * Stripes again, and block 5 between them, but 6 or -6 is expected of it, as all others are moved
+   * so: of the neighbours 5 and 7 only 5 can be.
+   */
+  private void noneBeyond() {
+    for (int way = -1; way <= 1; way += 2) {
+      GreyReel across = Paint.columns(Paint.exact(), Paint.alternating(10, 110));
+      for (int x = 0; x < 4; x++) {
+        across.box(x, 0, 1, 24, Paint.PROFILE[x]);
+      }
+      across.ramp(0, 0, 32);
+      across.code();
+      across.shift(-3 * way, 0);
+      for (int at = 8; at < 16; at++) {
+        across.box(8, at, 8, 1, 60 + 4 * at);
+      }
+      across.code();
+      due("vectorX(1, 4)", across.vectorX(1, 4), 6 * way);
+      due("vector, none beyond across", vector(across), 5 * way + " 0");
+      GreyReel down = Paint.lines(Paint.exact(), Paint.alternating(10, 110));
+      for (int y = 0; y < 24; y++) {
+        down.box(0, y, 4, 1, Paint.PROFILE[y]);
+      }
+      down.ramp(0, 32, 0);
+      down.code();
+      down.shift(0, -3 * way);
+      for (int at = 8; at < 16; at++) {
+        down.box(at, 8, 1, 8, 60 + 4 * at);
+      }
+      down.code();
+      due("vectorY(1, 4)", down.vectorY(1, 4), 6 * way);
+      due("vector, none beyond down", vector(down), "0 " + 5 * way);
+    }
   }
 
   /** A slope of 2 a point; brighter by 1 in some columns, as it is half a point further on. */
@@ -796,7 +862,7 @@ public final class TermEdgesTest {
       String what = "p, r, s, t of " + row[0] + ", " + row[1] + ", " + row[2] + ", " + row[3];
       due(what, seam(row[0], row[1], row[2], row[3]), row[4] + " " + row[5]);
     }
-    for (int at = 4; at <= 28; at += 4) {
+    for (int at = 1; at <= 31; at++) {
       GreyReel x = new GreyReel();
       x.setStep(1);
       x.fill(100);
@@ -840,7 +906,7 @@ public final class TermEdgesTest {
 
   private void smoothedDown() {
     on.sentence("Term 5", "Then for each y of 8 and 16, for each point from the left");
-    for (int at = 4; at <= 20; at += 4) {
+    for (int at = 1; at <= 23; at++) {
       GreyReel x = new GreyReel();
       x.setStep(1);
       x.fill(106);
